@@ -1,0 +1,253 @@
+import java.util.Random;
+import java.util.function.Supplier;
+
+/** Runs of calls, drawn by lot from a fixed seed, on RootCompass and on the Model: every answer is the same. */
+public final class ModelTest {
+    private static final int RUNS = 1500;
+    private static final int CALLS = 120;
+
+    private final Random lot;
+    private RootCompass compass = new RootCompass();
+    private Model model = new Model();
+    private final StringBuilder told = new StringBuilder();
+    private int wrong;
+    private int calls;
+    private final int[] reached = new int[3];
+    private final int[] ways = new int[Model.WAYS];
+    private int unsupported;
+    private int failingMoves;
+    private int range;
+
+    private ModelTest(long seed) {
+        lot = new Random(seed);
+    }
+
+    public static void main(String[] args) {
+        ModelTest test = new ModelTest(20261115L);
+        for (int run = 0; run < RUNS && test.wrong == 0; run++) {
+            test.oneRun(run);
+        }
+        test.checkCoverage();
+        System.out.println("ModelTest: " + test.calls + " calls, " + test.wrong + " wrong");
+        if (test.wrong != 0) {
+            System.exit(1);
+        }
+    }
+
+    /** A run that never came to the hard places would prove nothing of them. */
+    private void checkCoverage() {
+        for (int depth = 0; depth < reached.length; depth++) {
+            demand(reached[depth] > 100, "depth " + depth + " was reached " + reached[depth] + " times");
+        }
+        for (int way = 0; way < ways.length; way++) {
+            demand(ways[way] > 20, "way " + way + " of ROOT was gone " + ways[way] + " times");
+        }
+        demand(unsupported > 500, unsupported + " calls threw UnsupportedOperationException");
+        demand(failingMoves > 100, failingMoves + " moves failed");
+    }
+
+    private void demand(boolean holds, String what) {
+        if (!holds) {
+            wrong++;
+            System.out.println("too few: " + what);
+        }
+    }
+
+    private void oneRun(int run) {
+        compass = new RootCompass();
+        model = new Model();
+        told.setLength(0);
+        int[] ranges = {2, 3, 4, 6, 12, 100, 10000};
+        range = ranges[run % ranges.length];
+        for (int i = 0; i < 3; i++) {
+            freePoint();
+        }
+        for (int call = 0; call < CALLS && wrong == 0; call++) {
+            oneCall();
+        }
+        reached[model.depth()]++;
+        for (int way = 0; way < ways.length; way++) {
+            ways[way] += model.ways[way];
+        }
+    }
+
+    private void oneCall() {
+        int choice = lot.nextInt(100);
+        if (choice < 40) {
+            build();
+            compareAll();
+        } else if (choice < 50) {
+            change();
+            compareAll();
+        } else {
+            ask();
+        }
+    }
+
+    private void build() {
+        int choice = lot.nextInt(20);
+        if (choice == 0) {
+            freePoint();
+        } else if (choice < 4) {
+            int p = point();
+            int q = point();
+            same("line", () -> "" + compass.line(p, q), () -> model.line(p, q), p, q);
+        } else if (choice < 8) {
+            int c = point();
+            int p = point();
+            int q = point();
+            same("circle", () -> "" + compass.circle(c, p, q), () -> model.circle(c, p, q), c, p, q);
+        } else if (choice == 8) {
+            int p = point();
+            int q = point();
+            same("middle", () -> "" + compass.middle(p, q), () -> model.middle(p, q), p, q);
+        } else {
+            int a = curve();
+            int b = curve();
+            int which = lot.nextInt(12) == 0 ? lot.nextInt(4) - 1 : lot.nextInt(2);
+            int used = model.kind(a) == 1 && model.kind(b) == 1 && lot.nextInt(8) != 0 ? 0 : which;
+            same("meet", () -> "" + compass.meet(a, b, used), () -> model.meet(a, b, used), a, b, used);
+        }
+    }
+
+    private void freePoint() {
+        int a = upper();
+        int b = lower();
+        int c = upper();
+        int d = lower();
+        same("free", () -> "" + compass.free(a, b, c, d), () -> model.free(a, b, c, d), a, b, c, d);
+    }
+
+    private void change() {
+        if (lot.nextInt(5) < 2) {
+            same("undo", () -> "" + compass.undo(), () -> model.undo());
+            return;
+        }
+        int p = lot.nextInt(3) == 0 ? point() : lot.nextInt(3);
+        int a = upper();
+        int b = lower();
+        int c = upper();
+        int d = lower();
+        String answer = same("move", () -> "" + compass.move(p, a, b, c, d), () -> model.move(p, a, b, c, d), p, a, b, c, d);
+        failingMoves += answer.length() < 3 && !answer.equals("-1") ? 1 : 0;
+    }
+
+    private void ask() {
+        int p = point();
+        int q = point();
+        int r = point();
+        int s = point();
+        int a = curve();
+        int b = curve();
+        boolean y = lot.nextBoolean();
+        int n = lot.nextInt(6) == 0 ? lot.nextInt(2000010) - 1000005 : lot.nextInt(2 * range + 1) - range;
+        switch (lot.nextInt(6)) {
+            case 0:
+                same("on", () -> "" + compass.on(p, a), () -> model.on(p, a), p, a);
+                break;
+            case 1:
+                same("same", () -> "" + compass.same(p, q), () -> model.same(p, q), p, q);
+                break;
+            case 2:
+                same("equal", () -> "" + compass.equal(p, q, r, s), () -> model.equal(p, q, r, s), p, q, r, s);
+                break;
+            case 3:
+                same("angle", () -> "" + compass.angle(a, b), () -> model.angle(a, b), a, b);
+                break;
+            case 4:
+                same("side", () -> "" + compass.side(p, q, r), () -> model.side(p, q, r), p, q, r);
+                break;
+            default:
+                same("sign", () -> "" + compass.sign(p, y, n), () -> model.sign(p, y, n), p, y ? 1 : 0, n);
+                break;
+        }
+    }
+
+    /** Everything that can be seen of the state. */
+    private void compareAll() {
+        for (int which = -1; which <= 3; which++) {
+            int w = which;
+            quietly("look", () -> "" + compass.look(w), () -> model.look(w), w);
+        }
+        for (int o = -1; o <= model.steps.size() && wrong == 0; o++) {
+            int p = o;
+            quietly("kind", () -> "" + compass.kind(p), () -> "" + model.kind(p), p);
+            for (int i = 0; i < 16; i++) {
+                compareParts(p, i % 4, i / 4 % 2 == 1, i / 8 == 1);
+            }
+        }
+        quietly("part", () -> "" + compass.part(0, false, 4, false), () -> model.part(0, false, 4, false), 4);
+        quietly("part", () -> "" + compass.part(0, false, -1, true), () -> model.part(0, false, -1, true), -1);
+    }
+
+    private void compareParts(int p, int i, boolean y, boolean q) {
+        quietly("part", () -> "" + compass.part(p, y, i, q), () -> model.part(p, y, i, q), p, y ? 1 : 0, i, q ? 1 : 0);
+        if (p <= 3) {
+            quietly("radicand", () -> "" + compass.radicand(p, i, q), () -> model.radicand(p, i, q), p, i, q ? 1 : 0);
+        }
+    }
+
+    private int upper() {
+        return lot.nextInt(300) == 0 ? (lot.nextBoolean() ? 10001 : -10001) : lot.nextInt(2 * range + 1) - range;
+    }
+
+    private int lower() {
+        if (lot.nextInt(300) == 0) {
+            return lot.nextBoolean() ? 0 : 10001;
+        }
+        return lot.nextInt(3) == 0 ? 1 + lot.nextInt(range) : 1;
+    }
+
+    private int point() {
+        return some(0);
+    }
+
+    private int curve() {
+        return some(1);
+    }
+
+    /** A number that is mostly that of a point, or of a line or circle. */
+    private int some(int least) {
+        int o = lot.nextInt(model.steps.size() + 2) - 1;
+        for (int i = 0; i < 40 && lot.nextInt(60) != 0; i++) {
+            if (least == 0 ? model.kind(o) == 0 : model.kind(o) >= 1) {
+                return o;
+            }
+            o = lot.nextInt(model.steps.size() + 2) - 1;
+        }
+        return o;
+    }
+
+    private String same(String name, Supplier<String> call, Supplier<String> due, int... arguments) {
+        note(name, arguments);
+        String answer = quietly(name, call, due, arguments);
+        unsupported += answer.equals("UnsupportedOperationException") ? 1 : 0;
+        return answer;
+    }
+
+    private String quietly(String name, Supplier<String> call, Supplier<String> due, int... arguments) {
+        calls++;
+        String got = answer(call);
+        String want = due.get();
+        if (!got.equals(want)) {
+            if (wrong == 0) {
+                note(name, arguments);
+                System.out.println(told + "answered " + got + ", due is " + want);
+            }
+            wrong++;
+        }
+        return want;
+    }
+
+    private void note(String name, int... arguments) {
+        told.append(name).append(java.util.Arrays.toString(arguments)).append('\n');
+    }
+
+    private static String answer(Supplier<String> call) {
+        try {
+            return call.get();
+        } catch (RuntimeException e) {
+            return e.getClass().getSimpleName();
+        }
+    }
+}
