@@ -483,7 +483,7 @@ public final class RootCompass {
         private static final int SIZE = 4;
         private static final int DEEPEST = 2;
         private static final int WIDEST = 2147483647;
-        /** Far more than the meeting of two circles needs at DEPTH 2. */
+        /** More than any work needs: the meeting of two circles at DEPTH 2 takes some 200 at the very most. */
         private static final int WORK_NUMBERS = 256;
         /** Euclid's way with numbers of 63 bits takes at most 91 divisions. */
         private static final int MOST_DIVISIONS = 100;
@@ -708,14 +708,6 @@ public final class RootCompass {
             return pair(below, r, plain, rooted);
         }
 
-        /** a * a - (b * b) * R of x = (a, b). */
-        private int norm(int level, int x) {
-            int below = level - 1;
-            int b = x + (1 << below);
-            int bbr = product(below, product(below, b, b), radicandOf(level));
-            return sum(below, product(below, x, x), negative(below, bbr));
-        }
-
         /** 0 FAILS. */
         private int inverse(int level, int x) {
             int r = reserve();
@@ -729,9 +721,11 @@ public final class RootCompass {
                 return r;
             }
             int below = level - 1;
-            int m = inverse(below, norm(level, x));
-            int minusB = negative(below, x + (1 << below));
-            return pair(below, r, product(below, x, m), product(below, minusB, m));
+            int b = x + (1 << below);
+            // a * a - (b * b) * R stands here, in signOf() and in root(), lest calls go more than eight deep.
+            int bbr = product(below, product(below, b, b), radicandOf(level));
+            int m = inverse(below, sum(below, product(below, x, x), negative(below, bbr)));
+            return pair(below, r, product(below, x, m), product(below, negative(below, b), m));
         }
 
         private int signOf(int level, int x) {
@@ -739,12 +733,17 @@ public final class RootCompass {
                 return Integer.compare(over[x], 0);
             }
             int below = level - 1;
+            int b = x + (1 << below);
             int s = signOf(below, x);
-            int t = signOf(below, x + (1 << below));
+            int t = signOf(below, b);
             if (t == 0 || t == s) {
                 return s;
             }
-            return s == 0 ? t : s * signOf(below, norm(level, x));
+            if (s == 0) {
+                return t;
+            }
+            int bbr = product(below, product(below, b, b), radicandOf(level));
+            return s * signOf(below, sum(below, product(below, x, x), negative(below, bbr)));
         }
 
         /** The ROOT of x, which is not below 0, or NONE. */
@@ -762,7 +761,8 @@ public final class RootCompass {
                 int rooted = root(below, product(below, x, inverse(below, radicandOf(level))));
                 return rooted == NONE ? NONE : pair(below, reserve(), reserve(), rooted);
             }
-            int square = norm(level, x);
+            int bbr = product(below, product(below, b, b), radicandOf(level));
+            int square = sum(below, product(below, x, x), negative(below, bbr));
             int n = signOf(below, square) < 0 ? NONE : root(below, square);
             if (n == NONE) {
                 return NONE;
