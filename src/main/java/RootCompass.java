@@ -1,5 +1,3 @@
-import java.util.Arrays;
-
 /**
  * Constructions with straightedge and compass, exactly: points, lines and circles in numbers that
  * are made of fractions and of at most two square roots, one over the other.
@@ -499,10 +497,6 @@ public final class RootCompass {
             work = (DEEPEST + kept) * SIZE;
             over = new int[work + WORK_NUMBERS * SIZE];
             under = new int[work + WORK_NUMBERS * SIZE];
-            Arrays.fill(under, 1);
-            next = work;
-            depth = 0;
-            failed = false;
         }
 
         static int radicandOf(int level) {

@@ -128,8 +128,9 @@ public final class ModelTest {
         int b = lower();
         int c = upper();
         int d = lower();
-        String answer = same("move", () -> "" + compass.move(p, a, b, c, d), () -> model.move(p, a, b, c, d), p, a, b, c, d);
-        failingMoves += answer.length() < 3 && !answer.equals("-1") ? 1 : 0;
+        String failing = same("move", () -> "" + compass.move(p, a, b, c, d), () -> model.move(p, a, b, c, d),
+                p, a, b, c, d);
+        failingMoves += failing.length() < 3 && !failing.equals("-1") ? 1 : 0;
     }
 
     private void ask() {

@@ -25,6 +25,8 @@ public final class PromiseTest {
         test.roots();
         test.levels();
         test.tooWide();
+        test.widest();
+        test.afterTooWide();
         test.move();
         test.moveThatFails();
         test.undo();
@@ -356,6 +358,14 @@ public final class PromiseTest {
         due(true, "on(18, 3)", () -> c.on(18, 3));
         due(true, "on(18, 17)", () -> c.on(18, 17));
         due(-1, "sign(18, false, 0)", () -> c.sign(18, false, 0));
+        // Squares 25 round (1, 2) and (1, 10), off the axes; B is 16, so less its negative is to the right.
+        c.free(1, 1, 2, 1);
+        c.free(1, 1, 10, 1);
+        c.circle(19, 0, 2);
+        c.circle(20, 0, 2);
+        due(23, "meet(21, 22, 0)", () -> c.meet(21, 22, 0));
+        x(c, 23, "4/1");
+        y(c, 23, "6/1");
     }
 
     private void meetWrong() {
@@ -466,6 +476,54 @@ public final class PromiseTest {
         c.line(0, 2);
         refused(UNSUPPORTED, c, "a meeting too wide", () -> c.meet(4, 5, 0));
         due(0, "look(1)", () -> c.look(1));
+    }
+
+    private void widest() {
+        RootCompass c = new RootCompass();
+        c.free(0, 1, 0, 1);
+        c.free(1, 1, 0, 1);
+        c.free(-9998, 1, 7799, 30);
+        c.free(-503, 1, 7539, 29);
+        c.line(0, 1);
+        c.line(2, 3);
+        due(6, "meet(4, 5, 0)", () -> c.meet(4, 5, 0));
+        x(c, 6, "2147483647/1");
+        due(1, "sign(6, false, 0)", () -> c.sign(6, false, 0));
+        refused(UNSUPPORTED, c, "sign(6, false, -1)", () -> c.sign(6, false, -1));
+        c.free(0, 1, 1, 1);
+        c.free(1, 1, 1, 1);
+        due(9, "a line with B = C = -2147483647", () -> c.line(7, 6));
+        c.line(1, 8);
+        due(11, "meet(9, 10, 0)", () -> c.meet(9, 10, 0));
+        x(c, 11, "1/1");
+        y(c, 11, "2147483646/2147483647");
+        due(12, "middle(0, 11)", () -> c.middle(0, 11));
+        y(c, 12, "1073741823/2147483647");
+        refused(UNSUPPORTED, c, "a middle with q = 2 * 2147483647", () -> c.middle(0, 12));
+        refused(UNSUPPORTED, c, "a middle whose sum has p = 2 * 2147483647 - 1", () -> c.middle(7, 11));
+    }
+
+    /** A question that was too wide is forgotten by the next one. */
+    private void afterTooWide() {
+        RootCompass c = farOff(10000);
+        c.circle(6, 0, 1);
+        c.line(2, 1);
+        refused(UNSUPPORTED, c, "equal()", () -> c.equal(0, 6, 0, 6));
+        due(true, "equal(0, 1, 1, 0)", () -> c.equal(0, 1, 1, 0));
+        refused(UNSUPPORTED, c, "equal()", () -> c.equal(0, 6, 0, 6));
+        due(0, "angle(4, 8)", () -> c.angle(4, 8));
+        refused(UNSUPPORTED, c, "equal()", () -> c.equal(0, 6, 0, 6));
+        due(1, "sign(6, false, 0)", () -> c.sign(6, false, 0));
+        refused(UNSUPPORTED, c, "equal()", () -> c.equal(0, 6, 0, 6));
+        due(1, "side(0, 1, 2)", () -> c.side(0, 1, 2));
+        refused(UNSUPPORTED, c, "equal()", () -> c.equal(0, 6, 0, 6));
+        due(true, "on(6, 4)", () -> c.on(6, 4));
+        refused(UNSUPPORTED, c, "circle(0, 0, 6)", () -> c.circle(0, 0, 6));
+        due(9, "free(1, 2, 3, 4)", () -> c.free(1, 2, 3, 4));
+        x(c, 9, "1/2");
+        refused(UNSUPPORTED, c, "circle(0, 0, 6)", () -> c.circle(0, 0, 6));
+        due(-1, "move(9, 1, 3, 1, 5)", () -> c.move(9, 1, 3, 1, 5));
+        y(c, 9, "1/5");
     }
 
     private void move() {
@@ -615,7 +673,12 @@ public final class PromiseTest {
         due(0, "angle(4, 9)", () -> c.angle(4, 9));
         due(0, "angle(10, 9)", () -> c.angle(10, 9));
         due(1, "angle(10, 10)", () -> c.angle(10, 10));
-        for (int w : new int[] {0, 5, 11, -1, LOWEST, HIGHEST}) {
+        c.free(2, 1, 1, 1);
+        c.free(-1, 1, 2, 1);
+        c.line(0, 11);
+        c.line(12, 0);
+        due(2, "angle(13, 14), aslant", () -> c.angle(13, 14));
+        for (int w : new int[] {0, 5, 15, -1, LOWEST, HIGHEST}) {
             refused(ARGUMENT, c, "angle(" + w + ", 4)", () -> c.angle(w, 4));
             refused(ARGUMENT, c, "angle(4, " + w + ")", () -> c.angle(4, w));
         }
@@ -665,7 +728,13 @@ public final class PromiseTest {
         due(0, "side(0, 0, 2)", () -> c.side(0, 0, 2));
         due(-1, "side(1, 2, 6)", () -> c.side(1, 2, 6));
         due(1, "side(3, 6, 2)", () -> c.side(3, 6, 2));
-        for (int w : new int[] {4, 5, 7, -1, LOWEST, HIGHEST}) {
+        c.free(5, 1, 5, 1);
+        c.free(6, 1, 6, 1);
+        c.free(7, 1, 6, 1);
+        c.free(6, 1, 7, 1);
+        due(-1, "side(7, 8, 9)", () -> c.side(7, 8, 9));
+        due(1, "side(7, 8, 10)", () -> c.side(7, 8, 10));
+        for (int w : new int[] {4, 5, 11, -1, LOWEST, HIGHEST}) {
             refused(ARGUMENT, c, "side(" + w + ", 0, 0)", () -> c.side(w, 0, 0));
             refused(ARGUMENT, c, "side(0, " + w + ", 0)", () -> c.side(0, w, 0));
             refused(ARGUMENT, c, "side(0, 0, " + w + ")", () -> c.side(0, 0, w));
