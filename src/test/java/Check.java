@@ -38,39 +38,4 @@ final class Check {
             System.exit(1);
         }
     }
-
-    /** All that can be seen of a RootCompass. */
-    static String state(RootCompass c) {
-        StringBuilder text = new StringBuilder();
-        for (int which = 0; which < 3; which++) {
-            text.append(c.look(which)).append(' ');
-        }
-        for (int o = 0; o < c.look(0); o++) {
-            text.append('|').append(c.kind(o));
-            if (c.kind(o) == 0) {
-                text.append(coordinate(c, o, false)).append(coordinate(c, o, true));
-            }
-        }
-        for (int k = 1; k <= c.look(1); k++) {
-            text.append('R').append(radicand(c, k));
-        }
-        return text.toString();
-    }
-
-    /** The four fractions of a coordinate, as in "1/2 0/1 0/1 0/1". */
-    static String coordinate(RootCompass c, int p, boolean y) {
-        StringBuilder text = new StringBuilder();
-        for (int i = 0; i < 4; i++) {
-            text.append(i == 0 ? "" : " ").append(c.part(p, y, i, false)).append('/').append(c.part(p, y, i, true));
-        }
-        return text.toString();
-    }
-
-    static String radicand(RootCompass c, int k) {
-        StringBuilder text = new StringBuilder();
-        for (int i = 0; i < 4; i++) {
-            text.append(i == 0 ? "" : " ").append(c.radicand(k, i, false)).append('/').append(c.radicand(k, i, true));
-        }
-        return text.toString();
-    }
 }

@@ -89,13 +89,21 @@ public final class FaceTest {
     }
 
     private void nestedClasses() {
+        check.holds(RootCompass.class.getDeclaredClasses().length < 12, "there are at most twelve classes");
+        sizes(RootCompass.class);
         for (Class<?> inner : RootCompass.class.getDeclaredClasses()) {
             check.holds(Modifier.isStatic(inner.getModifiers()), inner + " is static");
             check.holds(!Modifier.isPublic(inner.getModifiers()), inner + " is not public");
-            for (Method m : inner.getDeclaredMethods()) {
-                check.holds(m.getParameterCount() <= 7, m + " has at most seven parameters");
-            }
+            sizes(inner);
         }
+    }
+
+    private void sizes(Class<?> type) {
+        for (Method m : type.getDeclaredMethods()) {
+            check.holds(m.getParameterCount() <= 7, m + " has at most seven parameters");
+        }
+        long fields = Arrays.stream(type.getDeclaredFields()).filter(f -> !Modifier.isStatic(f.getModifiers())).count();
+        check.holds(fields <= 20, type + " has at most twenty fields beside its constants");
     }
 
     private void source(String text) {

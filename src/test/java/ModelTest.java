@@ -3,15 +3,20 @@ import java.util.function.Supplier;
 
 /** Runs of calls, drawn by lot from a fixed seed, on RootCompass and on the Model: every answer is the same. */
 public final class ModelTest {
-    private static final int RUNS = 1500;
-    private static final int CALLS = 120;
+    private static final int RUNS = 8000;
+    /** What the answers behind the last of these calls on an object are is free. */
+    private static final int MOST_CALLS = 512;
+    /** Of these calls, so many are kept for a look at everything in the end. */
+    private static final int LAST_CALLS = 200;
 
     private final Random lot;
     private RootCompass compass = new RootCompass();
     private Model model = new Model();
     private final StringBuilder told = new StringBuilder();
     private int wrong;
-    private int calls;
+    private long calls;
+    /** Calls on the RootCompass of this run. */
+    private int used;
     private final int[] reached = new int[3];
     private final int[] ways = new int[Model.WAYS];
     private int unsupported;
@@ -57,13 +62,18 @@ public final class ModelTest {
         compass = new RootCompass();
         model = new Model();
         told.setLength(0);
+        used = 0;
         int[] ranges = {2, 3, 4, 6, 12, 100, 10000};
         range = ranges[run % ranges.length];
         for (int i = 0; i < 3; i++) {
             freePoint();
         }
-        for (int call = 0; call < CALLS && wrong == 0; call++) {
+        while (used < MOST_CALLS - LAST_CALLS && wrong == 0) {
             oneCall();
+        }
+        compareAll();
+        if (used > MOST_CALLS) {
+            throw new AssertionError("a run of " + used + " calls");
         }
         reached[model.depth()]++;
         for (int way = 0; way < ways.length; way++) {
@@ -75,10 +85,10 @@ public final class ModelTest {
         int choice = lot.nextInt(100);
         if (choice < 40) {
             build();
-            compareAll();
+            compareSome();
         } else if (choice < 50) {
             change();
-            compareAll();
+            compareSome();
         } else {
             ask();
         }
@@ -164,28 +174,45 @@ public final class ModelTest {
         }
     }
 
-    /** Everything that can be seen of the state. */
+    /** A little of what can be seen of the state. */
+    private void compareSome() {
+        compareLooks(lot.nextInt(5) - 1);
+        int o = lot.nextInt(model.steps.size() + 2) - 1;
+        compareKinds(o);
+        compareParts(o, lot.nextInt(6) - 1, lot.nextBoolean(), lot.nextBoolean());
+        compareParts(model.steps.size() - 1, lot.nextInt(4), lot.nextBoolean(), lot.nextBoolean());
+        compareRadicands(lot.nextInt(4), lot.nextInt(6) - 1, lot.nextBoolean());
+    }
+
+    /** Everything that can be seen of the state, as far as the calls reach, the last objects first. */
     private void compareAll() {
-        for (int which = -1; which <= 3; which++) {
-            int w = which;
-            quietly("look", () -> "" + compass.look(w), () -> model.look(w), w);
+        compareLooks(0);
+        compareLooks(1);
+        compareLooks(2);
+        for (int i = 0; i < 16; i++) {
+            compareRadicands(1 + i / 8, i / 2 % 4, i % 2 == 1);
         }
-        for (int o = -1; o <= model.steps.size() && wrong == 0; o++) {
-            int p = o;
-            quietly("kind", () -> "" + compass.kind(p), () -> "" + model.kind(p), p);
-            for (int i = 0; i < 16; i++) {
-                compareParts(p, i % 4, i / 4 % 2 == 1, i / 8 == 1);
+        for (int o = model.steps.size() - 1; o >= 0; o--) {
+            for (int i = 0; i < 16 && model.kind(o) == 0 && used < MOST_CALLS && wrong == 0; i++) {
+                compareParts(o, i % 4, i / 4 % 2 == 1, i / 8 == 1);
             }
         }
-        quietly("part", () -> "" + compass.part(0, false, 4, false), () -> model.part(0, false, 4, false), 4);
-        quietly("part", () -> "" + compass.part(0, false, -1, true), () -> model.part(0, false, -1, true), -1);
+    }
+
+    private void compareLooks(int which) {
+        quietly("look", () -> "" + compass.look(which), () -> model.look(which), which);
+    }
+
+    private void compareKinds(int o) {
+        quietly("kind", () -> "" + compass.kind(o), () -> "" + model.kind(o), o);
+    }
+
+    private void compareRadicands(int k, int i, boolean q) {
+        quietly("radicand", () -> "" + compass.radicand(k, i, q), () -> model.radicand(k, i, q), k, i, q ? 1 : 0);
     }
 
     private void compareParts(int p, int i, boolean y, boolean q) {
         quietly("part", () -> "" + compass.part(p, y, i, q), () -> model.part(p, y, i, q), p, y ? 1 : 0, i, q ? 1 : 0);
-        if (p <= 3) {
-            quietly("radicand", () -> "" + compass.radicand(p, i, q), () -> model.radicand(p, i, q), p, i, q ? 1 : 0);
-        }
     }
 
     private int upper() {
@@ -228,6 +255,7 @@ public final class ModelTest {
 
     private String quietly(String name, Supplier<String> call, Supplier<String> due, int... arguments) {
         calls++;
+        used++;
         String got = answer(call);
         String want = due.get();
         if (!got.equals(want)) {

@@ -46,7 +46,8 @@ public final class RoomTest {
             c.meet(8, 9, o % 2);
         }
         long last = 0;
-        for (int call = 24; call < CALLS; call += 4) {
+        // The last calls are those that look whether all is there.
+        for (int call = 24; call + 4 <= CALLS - 2; call += 4) {
             c.side(0, 10, 11);
             c.equal(0, 10, 0, 11);
             c.on(10, 8);
