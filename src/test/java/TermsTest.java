@@ -20,6 +20,7 @@ public final class TermsTest extends Cases {
         test.signs();
         test.signsOfLevelTwo();
         test.signsTooWide();
+        test.inversesTooWide();
         test.sameNumbers();
         test.rootsOfFractions();
         test.rootsOfPairsWithoutB();
@@ -306,6 +307,26 @@ public final class TermsTest extends Cases {
         }
     }
 
+    // "INVERSE .. of (a, b), not 0: with n = a * a - (b * b) * R": for the meeting of lines, n may be TOO WIDE.
+
+    private void inversesTooWide() {
+        Watched c = Figures.axis();
+        Figures.far(c, 46340);
+        Figures.far(c, 46341);
+        c.free(1, 1, 1, 1);
+        c.circle(6, 0, 11);
+        c.circle(10, 0, 11);
+        c.meet(2, 12, 1);
+        c.meet(2, 13, 1);
+        c.free(0, 1, 1, 1);
+        c.line(0, 16);
+        c.line(16, 14);
+        c.line(16, 15);
+        due(20, "D = -46340 - root of 2", () -> c.meet(17, 18, 0));
+        due(true, "same(20, 16)", () -> c.same(20, 16));
+        refused(UNSUPPORTED, c, "D = -46341 - root of 2", () -> c.meet(17, 19, 0));
+    }
+
     // "Two numbers are the same if all their fractions are."
 
     private void sameNumbers() {
@@ -329,6 +350,10 @@ public final class TermsTest extends Cases {
         due(true, "same(17, 17)", () -> c.same(17, 17));
         c.meet(16, 15, 0);
         due(true, "all fractions the same", () -> c.same(17, 18));
+        // "HALF: each fraction in it times 1 / 2."
+        due(19, "middle(17, 0)", () -> c.middle(17, 0));
+        x(c, 19, "0/1 0/1 1/4 1/2");
+        y(c, 19, "1/4 1/2");
     }
 
     // "ROOT of a number x not below 0: of a fraction: if p and q are squares, the roots of both, else none."
