@@ -84,7 +84,7 @@ final class Figures {
         return c;
     }
 
-    /** Four objects more for axis(), the last of them, which is the answer, the point (t, 0), t being far above 10000 or below. */
+    /** Four objects more for axis(); the last of them, whose number is the answer, is the point (t, 0), however far. */
     static int far(Watched c, int t) {
         int size = Math.abs(t);
         int turn = t < 0 ? -1 : 1;

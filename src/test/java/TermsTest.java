@@ -401,7 +401,7 @@ public final class TermsTest extends Cases {
         radicand(c, 1, radicand);
     }
 
-    /** The line 2, y = 0, has N = 16; the circle 6 the centre (0, up / 4) and the SQUARE 11585 * 11585 + (v / 4) * (v / 4). */
+    /** The line 2, y = 0, has N = 16; the circle 6 is round (0, up / 4), with 11585 * 11585 + (v / 4) * (v / 4). */
     private static Watched wideCut(int up, int v) {
         Watched c = new Watched();
         c.free(0, 1, 0, 1);
