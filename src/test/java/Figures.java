@@ -113,6 +113,28 @@ final class Figures {
         return 0;
     }
 
+    /** 0 (0, 0), 1 (1, 1), 2 the line through them, with A = 1, B = -1 and C = 0; 6 on it (t, t), however far. */
+    static Watched farDiagonal(int t) {
+        Watched c = new Watched();
+        c.free(0, 1, 0, 1);
+        c.free(1, 1, 1, 1);
+        c.line(0, 1);
+        // The line through (v - u, v) and (-u, 1 / z) meets x = y at z * u * v - u + v.
+        for (int z = 1; z <= WIDEST_INPUT; z++) {
+            for (int v = 1; v <= WIDEST_INPUT; v++) {
+                int u = (t - v) / Math.max(z * v - 1, 1);
+                if (u <= WIDEST_INPUT && z * u * v - u + v == t) {
+                    c.free(v - u, 1, v, 1);
+                    c.free(-u, 1, 1, z);
+                    c.line(3, 4);
+                    c.meet(2, 5, 0);
+                    return c;
+                }
+            }
+        }
+        throw new AssertionError("no way to " + t);
+    }
+
     /** axis(), far(t), which is 6, and more: 11 is the line x = s, and 12 on it (s, (t - s) / t). */
     static Watched slope(int t, int s) {
         Watched c = axis();

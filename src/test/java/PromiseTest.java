@@ -6,6 +6,7 @@ public final class PromiseTest extends Cases {
 
     public static void main(String[] args) {
         PromiseTest test = new PromiseTest();
+        test.readme();
         test.newObject();
         test.free();
         test.line();
@@ -33,6 +34,28 @@ public final class PromiseTest extends Cases {
         test.kind();
         test.look();
         test.end();
+    }
+
+    /** The example of README.md, and what stands behind its calls there. */
+    private void readme() {
+        Watched c = new Watched();
+        int o = c.free(0, 1, 0, 1);
+        int p = c.free(1, 1, 0, 1);
+        int a = c.circle(o, o, p);
+        int b = c.circle(p, o, p);
+        int top = c.meet(a, b, 1);
+        x(c, top, "1/2");
+        y(c, top, "0/1 1/2");
+        due(true, "equal(o, top, p, top)", () -> c.equal(o, top, p, top));
+        due(1, "look(1)", () -> c.look(1));
+        due(3, "radicand(1, 0, false)", () -> c.radicand(1, 0, false));
+        due(2, "part(top, true, 1, true)", () -> c.part(top, true, 1, true));
+        due(-1, "move(p, 2, 1, 0, 1)", () -> c.move(p, 2, 1, 0, 1));
+        due(48, "radicand(1, 0, false)", () -> c.radicand(1, 0, false));
+        x(c, top, "1/1");
+        y(c, top, "0/1 1/4");
+        due(true, "undo()", () -> c.undo());
+        due(0, "look(1)", () -> c.look(1));
     }
 
     private void newObject() {
